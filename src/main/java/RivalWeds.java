@@ -864,7 +864,7 @@ public final class RivalWeds {
         /** The person told here, who must be another one than the other, and, where it is asked for, not wed. */
         private int takeSomebody(int other, boolean unwed) {
             int person = number;
-            boolean can = draft.hasPerson(person) && person != other && !(unwed && draft.isWed(person));
+            boolean can = draft.hasPerson(person) && person != other && !(unwed && draft.spouseOf(person) != NONE);
             if (!can) {
                 refuse();
                 return NONE;
@@ -925,10 +925,8 @@ public final class RivalWeds {
             if (takes(Kind.OPEN)) {
                 return readsEither(depth + 1) && needs(Kind.CLOSE);
             }
-            if (takes(Kind.NOT)) {
-                boolean reads = readsAtom(depth + 1);
-                draft.addCode(Law.NOT);
-                return reads;
+            if (kind == Kind.NOT) {
+                return readsNot(depth + 1);
             }
             if (kind == Kind.INSURED || kind == Kind.RICH) {
                 draft.addCode(kind.code);
@@ -945,6 +943,13 @@ public final class RivalWeds {
             advance();
             boolean reads = readsSum();
             draft.addCode(sign.code);
+            return reads;
+        }
+
+        private boolean readsNot(int depth) {
+            advance();
+            boolean reads = readsAtom(depth);
+            draft.addCode(Law.NOT);
             return reads;
         }
 
@@ -1739,19 +1744,21 @@ public final class RivalWeds {
                 return;
             }
             if (leavesOneOut) {
-                partner.put(one, one);
-                pairUp(town, false, depth + 1);
-                partner.put(one, NONE);
+                tryPair(town, one, one, false, depth);
             }
             for (int other = one + 1; other < town.people; other++) {
                 if (partner.at(other) == NONE) {
-                    partner.put(one, other);
-                    partner.put(other, one);
-                    pairUp(town, leavesOneOut, depth + 1);
-                    partner.put(one, NONE);
-                    partner.put(other, NONE);
+                    tryPair(town, one, other, leavesOneOut, depth);
                 }
             }
+        }
+
+        private void tryPair(Town town, int one, int other, boolean leavesOneOut, int depth) {
+            partner.put(one, other);
+            partner.put(other, one);
+            pairUp(town, leavesOneOut, depth + 1);
+            partner.put(one, NONE);
+            partner.put(other, NONE);
         }
 
         private int firstWithout(int people) {

@@ -53,6 +53,10 @@ final class AheadTest {
         Due.bounds("best(-1)", () -> x.best(-1));
         RivalWeds y = Due.townOf("person 1;person 1;person 1;person 1;person 1;asked 3 0;asked 4 0;asked 3 1;likes 1 00900");
         Due.due("more insurers ahead of liking", y.best(1), 0);
+        RivalWeds z = Due.townOf("person 1;person 1;person 1;person 1;person 1;asked 3 0;asked 4 0;asked 1 2;asked 3 2;asked 4 2");
+        Due.due("three are more than two", z.best(0), 2);
+        Due.town(z, "likes 0 09000");
+        Due.due("though another is liked", z.best(0), 2);
         Due.due("alone", Due.townOf("person 3").best(0), -1);
     }
 
@@ -161,6 +165,9 @@ final class AheadTest {
         Due.due("months go on", x.gifts(0, 2, 0), 3);
         Due.due("to the third", x.gifts(0, 3, 0), 7);
         Due.due("nothing stays", x.match(0, 2) + x.count(14), 25);
+        Due.town(x, "bar 99");
+        Due.law(x, "lift 30;lift 30");
+        Due.due("up to 99 alone", x.gifts(0, 2, 0), 3);
     }
 
     private static void giftsThatSour() {

@@ -79,6 +79,13 @@ final class FallsTest {
         Due.due("7 loses all", x.loses(7), 999);
         x.reinsure(0, -1);
         Due.due("1032 less 98", x.holds(7), 934);
+        x.reinsure(0, 7);
+        x.wed(6, 7);
+        Due.town(x, "pays 74");
+        Due.due("999 just so", x.holds(7), 999);
+        Due.due("it is enough", x.falls(), 0);
+        Due.town(x, "pays 75");
+        Due.due("1002 not", x.holds(7), -1);
         Due.town(x, "pays 0");
         Due.due("who pays nothing", x.holds(7), 0);
     }

@@ -91,6 +91,9 @@ final class MonthsTest {
         RivalWeds y = Due.townOf("person 30;person 4;person 998;person 1;asked 2 0;asked 3 0;premium 20;bar 0;wed 0 1 happy 99");
         y.months(1);
         wealth(y, 0, 0, 999, 15);
+        RivalWeds z = Due.townOf("person 3;person 3;person 9;person 9;asked 0 2;asked 1 3;premium 2;bar 0;wed 3 2 happy 99");
+        z.months(1);
+        wealth(z, 5, 5, 9, 5);
     }
 
     private static void ruinWithinAClaim() {
@@ -233,6 +236,19 @@ final class MonthsTest {
         Due.due("the most", y.span(1, true), 1);
         Due.due("span of none", y.span(0, true), 0);
         Due.due("the seed stays", y.seed(1), 6);
+        RivalWeds z = Due.townOf("person 9;person 9;bar 50;wed 0 1 happy 50");
+        Due.law(z, "sour 10 if quarrel > 5 and quarrel < 7");
+        Due.due("seed 6 alone", z.span(1, true), 1);
+        Due.due("the others not", z.span(1, false), 0);
+        Due.law(z, "sour 10 if quarrel > 4");
+        Due.due("all six (the seventh not)", z.span(1, false), 1);
+        Due.law(z, "sour 10 if months > 0 and quarrel > 7");
+        Due.due("seed 1 alone", z.span(2, true), 1);
+        Due.law(z, "sour 10 if months > 1 and quarrel > 8");
+        Due.due("seed 2 alone", z.span(3, true), 1);
+        Due.law(z, "sour 10 if quarrel < 5");
+        Due.due("nobody by one month", z.span(1, true), 0);
+        Due.due("of many months", z.span(40, false) <= z.span(40, true), true);
     }
 
     private static void logWraps() {

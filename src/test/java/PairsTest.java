@@ -108,6 +108,8 @@ final class PairsTest {
         Due.due("2 but once", x.weddings(), 2);
         x.ask(5, 4);
         Due.due("three", x.weddings(), 3);
+        RivalWeds y = Due.townOf("person 1;person 1;person 1;person 1;asked 0 2;asked 3 1");
+        Due.due("crosswise", y.weddings(), 2);
         x.wed(0, 5);
         Due.due("not of wed ones", x.weddings(), 1);
         x.part(0);

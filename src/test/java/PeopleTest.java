@@ -28,6 +28,8 @@ final class PeopleTest {
         Due.bounds("person(-1, 0)", () -> x.person(-1, 0));
         RivalWeds poor = Due.townOf("person 0;person 0");
         Due.due("a share of nothing", poor.person(1, 6), 0);
+        RivalWeds penny = Due.townOf("person 0;person 1");
+        Due.due("a share of 1", penny.person(1, 6), 100);
         RivalWeds one = Due.townOf("person 999");
         Due.due("a share of all", one.person(0, 6), 100);
         RivalWeds three = Due.townOf("person 1;person 1;person 1");
@@ -91,6 +93,9 @@ final class PeopleTest {
         Due.due("both are acts", x.count(14), 2);
         Due.due("asked", x.person(1, 1), 16);
         Due.due("askers", x.person(4, 2), 2);
+        Due.due("0 asks too", x.ask(0, 4), true);
+        Due.due("askers", x.person(4, 2), 3);
+        x.undo();
         Due.argument("ask(1, 1)", () -> x.ask(1, 1) ? 1 : 0);
         Due.bounds("ask(5, 5)", () -> x.ask(5, 5) ? 1 : 0);
         Due.bounds("ask(0, 5)", () -> x.ask(0, 5) ? 1 : 0);

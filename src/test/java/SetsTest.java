@@ -38,6 +38,8 @@ final class SetsTest {
         Due.due("two rows that cannot both be", sets(x, 0, 1, 2, 1, 1, 0), 0);
         Due.due("rows together", sets(x, 0, 1, 1, 1, 2, 1, 2, 3, 1), 2);
         Due.due("sure by them", sure(x, 0, 1, 1, 1, 2, 2), 6);
+        Due.due("rows of before are gone", sets(x, 0, 0, 1), 8);
+        Due.due("also all", sets(x), 16);
         Due.due("12 rows", sets(x, 0, 3, 2, 0, 3, 2, 0, 3, 2, 0, 3, 2, 0, 3, 2, 0, 3, 2, 0, 3, 2, 0, 3, 2, 0, 3, 2,
                 0, 3, 2, 0, 3, 2, 0, 0, 1), 3);
         RivalWeds eight = Due.townOf("person 1;person 1;person 1;person 1;person 1;person 1;person 1;person 1");

@@ -88,6 +88,12 @@ final class TextsTest {
         Due.due("reinsured in place of the one before", Due.town(x, "reinsured 2 0"), 5);
         Due.due("reinsurer", x.person(2, 3), 0);
         Due.due("empty", Due.town(x, ""), 6);
+        RivalWeds y = Due.townOf("person 1;person 1;likes 0 05;person 1");
+        Due.due("of one who came behind 0", y.liking(0, 2), 0);
+        Due.town(y, "likes 2 370;person 1;likes 1 3004");
+        Due.due("likes 2", y.liking(2, 1), 7);
+        Due.due("likes 1", y.liking(1, 3), 4);
+        Due.due("not the other way", y.liking(3, 1), 0);
     }
 
     private static void townLimits() {
@@ -151,6 +157,21 @@ final class TextsTest {
         wrong(x, "person -1", 7);
         wrong(x, "persons 1", 0);
         wrong(x, "Person 1", 0);
+        wrong(x, "personz 1", 0);
+        wrong(x, "apays 1", 0);
+        wrong(x, "person ;x", 7);
+        wrong(x, "likes ;x", 6);
+        wrong(x, "asked ;x", 6);
+        wrong(x, "person 1;asked 0 ;x", 17);
+        wrong(x, "person 1;person 1;reinsured 0 ;x", 30);
+        wrong(x, "wed ;x", 4);
+        wrong(x, "person 1;person 1;wed 0 1 ;x", 26);
+        wrong(x, "person 1;person 1;wed 0 1 happy ;x", 32);
+        wrong(x, "bar ;x", 4);
+        wrong(x, "person 1{", 8);
+        wrong(x, "person 1/", 8);
+        wrong(x, "person 1:", 8);
+        wrong(x, "person 1`", 8);
         wrong(x, "person\t1", 6);
         wrong(x, "person 1x", 8);
         wrong(x, "lift 1", 0);
@@ -233,6 +254,10 @@ final class TextsTest {
         wrongLaw(x, text + " ; lift 1", text.length() + 3);
         Due.due("the law stays", x.match(0, 6), 78);
         Due.due("one in its place", Due.law(x, "sour 2;sour 3"), 2);
+        Due.due("an empty one has no lines", Due.law(x, ""), 0);
+        Due.due("nor have blanks", Due.law(x, "   "), 0);
+        Due.due("count(3)", x.count(3), 0);
+        Due.law(x, "sour 2;sour 3");
         Due.due("it turns", x.match(0, 6), -5);
     }
 
@@ -254,6 +279,12 @@ final class TextsTest {
         wrongLaw(x, ";", 0);
         wrongLaw(x, "lift", 4);
         wrongLaw(x, "lift ", 5);
+        wrongLaw(x, "lift ;x", 5);
+        wrongLaw(x, "lift 1 if ;x", 10);
+        wrongLaw(x, "lift 1 if rich and ;x", 19);
+        wrongLaw(x, "lift 1 if rich or ;x", 18);
+        wrongLaw(x, "lift 1 if not ;x", 14);
+        wrongLaw(x, "lift 1 if happy < ;x", 18);
         wrongLaw(x, "lift 31", 5);
         wrongLaw(x, "lift 0030", 5);
         wrongLaw(x, "lift 1 ;", 8);
