@@ -1823,6 +1823,7 @@ public final class RivalWeds {
     static final class ToldSets {
         private final Row rowSets = new Row(TOLD_MOST / 3);
         private final Row rowCounts = new Row(TOLD_MOST / 3);
+        private final Row countsWith = new Row(PEOPLE_MOST);
         private int rows;
         private int people;
 
@@ -1854,34 +1855,33 @@ public final class RivalWeds {
             return true;
         }
 
+        /** How many sets fit; on the way it is counted in how many of them each one is. */
         int fitting() {
             int found = 0;
+            countsWith.putAll(0);
             for (int set = 0; set < 1 << people; set++) {
                 if (fits(set)) {
                     found++;
+                    addMembers(set);
                 }
             }
             return found;
         }
 
-        private int fittingWith(int person) {
-            int found = 0;
-            for (int set = 0; set < 1 << people; set++) {
-                if (contains(set, person) && fits(set)) {
-                    found++;
+        private void addMembers(int set) {
+            for (int person = 0; person < people; person++) {
+                if (contains(set, person)) {
+                    countsWith.put(person, countsWith.at(person) + 1);
                 }
             }
-            return found;
         }
 
         int inAll() {
-            if (fitting() == 0) {
-                return 0;
-            }
-            int sure = (1 << people) - 1;
-            for (int set = 0; set < 1 << people; set++) {
-                if (fits(set)) {
-                    sure &= set;
+            int all = fitting();
+            int sure = 0;
+            for (int person = 0; person < people && all > 0; person++) {
+                if (countsWith.at(person) == all) {
+                    sure |= 1 << person;
                 }
             }
             return sure;
@@ -1892,7 +1892,7 @@ public final class RivalWeds {
             int best = NONE;
             int bestPart = all;
             for (int person = 0; person < people && all > 1; person++) {
-                int with = fittingWith(person);
+                int with = countsWith.at(person);
                 int part = Math.max(with, all - with);
                 if (best == NONE || part < bestPart) {
                     best = person;
