@@ -3,8 +3,13 @@ final class Due {
     static final String FIVE = "person 100;person 30;person 8;person 50;person 5;likes 0 09300;likes 1 40050;"
             + "likes 2 93000;asked 2 0;asked 3 1;asked 4 0;reinsured 2 3;reinsured 4 2;wed 0 1 happy 25";
 
+    private static final int PROMISES = 45;
+
     private static int checked = 0;
     private static int wrong = 0;
+    private static String sentence = "";
+    private static int checkedAhead = 0;
+    private static final int[] sentencesOf = new int[PROMISES + 1];
 
     interface Call {
         long answer();
@@ -13,11 +18,35 @@ final class Due {
     private Due() {
     }
 
+    /** All that is checked from here on is what a sentence says of the promise with that number. */
+    static void says(int promise, String ofDocument) {
+        endSentence();
+        sentence = "promise " + promise + ", \"" + ofDocument + "\": ";
+        checkedAhead = checked;
+        sentencesOf[promise]++;
+    }
+
+    private static void endSentence() {
+        if (!sentence.isEmpty() && checked == checkedAhead) {
+            fail("nothing is checked of it");
+        }
+    }
+
+    /** Each promise has had its sentences, and each of these a check. */
+    static void allPromises() {
+        endSentence();
+        sentence = "";
+        for (int promise = 1; promise <= PROMISES; promise++) {
+            if (sentencesOf[promise] == 0) {
+                fail("promise " + promise + " has no sentence");
+            }
+        }
+    }
+
     static void due(String call, long got, long want) {
         checked++;
         if (got != want) {
-            wrong++;
-            System.out.println(call + " answered " + got + ", due is " + want);
+            fail(call + " answered " + got + ", due is " + want);
         }
     }
 
@@ -36,8 +65,21 @@ final class Due {
             }
             got = "threw " + e;
         }
-        wrong++;
-        System.out.println(call + " " + got + ", due is " + want);
+        fail(call + " " + got + ", due is " + want);
+    }
+
+    /** The call throws just that, and nothing that can be seen is another then (fault() is not looked at). */
+    static void refuses(RivalWeds x, String call, Class<?> want, Call made) {
+        String ahead = Seen.of(x);
+        dueThrow(call, want, made);
+        same(call + " changes nothing", Seen.of(x), ahead);
+    }
+
+    static void same(String call, String got, String want) {
+        checked++;
+        if (!got.equals(want)) {
+            fail(call + ": seen is\n" + got + ", due is\n" + want);
+        }
     }
 
     static void bounds(String call, Call made) {
@@ -112,6 +154,6 @@ final class Due {
 
     static void fail(String text) {
         wrong++;
-        System.out.println(text);
+        System.out.println(sentence + text);
     }
 }

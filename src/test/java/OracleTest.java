@@ -2,7 +2,8 @@ import java.util.Random;
 
 /** Random runs of calls, each answered by the program and by the oracle. Arguments: number of runs, first run. */
 final class OracleTest {
-    private static final int CALLS = 500;
+    /** An object is promised 512 calls; a step makes some thirty at most. */
+    private static final int CALLS = 440;
 
     private interface Call {
         Object made();
@@ -14,6 +15,7 @@ final class OracleTest {
     private final StringBuilder told = new StringBuilder();
     private int people;
     private int matches;
+    private int made;
     private static int calls;
     private static int thrown;
     private static int textsTaken;
@@ -25,7 +27,7 @@ final class OracleTest {
     }
 
     public static void main(String[] args) {
-        int runs = args.length > 0 ? Integer.parseInt(args[0]) : 400;
+        int runs = args.length > 0 ? Integer.parseInt(args[0]) : 500;
         int first = args.length > 1 ? Integer.parseInt(args[1]) : 1;
         for (int run = first; run < first + runs; run++) {
             if (!new OracleTest(run).run()) {
@@ -45,7 +47,7 @@ final class OracleTest {
             return false;
         }
         int mood = random.nextInt(4);
-        for (int i = 0; i < CALLS; i++) {
+        while (made < CALLS) {
             people = y.count(0);
             matches = y.count(1);
             if (!(mood == 0 ? any() : mood == 1 && random.nextInt(3) == 0 ? acts() : mostly())) {
@@ -57,6 +59,7 @@ final class OracleTest {
 
     private boolean same(String call, Call ofX, Call ofY) {
         calls++;
+        made++;
         String a = answer(ofX);
         String b = answer(ofY);
         told.append(call).append(" -> ").append(b).append('\n');
