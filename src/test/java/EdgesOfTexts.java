@@ -1,6 +1,7 @@
 /** The edges that the document names for promises 1 to 6. In a text that is wrong a ^ stands ahead of its first wrong byte. */
 final class EdgesOfTexts {
     private static final String TWO = "person 50;person 50;wed 0 1 happy 25;likes 0 07;likes 1 60";
+    private static final int MARKED_MOST = 399;
     private static final String FIVE = "person 0;person 1;person 2;person 3;person 4";
     private static final String EIGHT = FIVE + ";person 5;person 6;person 7";
 
@@ -38,12 +39,23 @@ final class EdgesOfTexts {
         Due.due("the tape is used up by " + marked, x.end(1), false);
     }
 
+    /** It is wrong there also if there is more that is wrong behind. */
     private static void wrongTown(String marked) {
         wrongTown(new RivalWeds(), marked);
+        if (marked.length() <= MARKED_MOST) {
+            wrongTown(new RivalWeds(), marked + ";x");
+        }
+    }
+
+    private static void wrongLaw(String marked) {
+        wrongLine(marked);
+        if (marked.length() <= MARKED_MOST) {
+            wrongLine(marked + ";x");
+        }
     }
 
     /** The text is wrong just there, and the law of before stays. */
-    private static void wrongLaw(String marked) {
+    private static void wrongLine(String marked) {
         RivalWeds x = Due.townOf(TWO);
         Due.law(x, "lift 3;lift 4");
         int fault = marked.indexOf('^');
@@ -386,6 +398,7 @@ final class EdgesOfTexts {
     private static void figures() {
         Due.says(4, "F: as many figures as there are PEOPLE by then; figures that are not just so many are wrong");
         wrongTown("person 1;likes 0 ^00");
+        wrongTown("person 1;likes ^9");
         wrongTown("person 1;person 1;likes 0 ^0");
         wrongTown("person 1;person 1;likes 0 ^000");
         wrongTown("person 1;person 1;likes 0 ^0 0");
@@ -427,6 +440,8 @@ final class EdgesOfTexts {
         wrongTown(three + "wed ^1 0 happy 9");
         wrongTown(three + "wed ^0 0 happy 9");
         wrongTown(Due.townOf(three + "bar 1"), "wed 2 ^1 happy 9");
+        wrongTown(three + "wed 2 ^happy 9");
+        wrongTown(three + "wed ^happy 9");
         RivalWeds x = Due.townOf(three + "bar 1");
         x.part(0);
         Due.town(x, "wed 2 1 happy 9");
@@ -645,6 +660,7 @@ final class EdgesOfTexts {
         wrongLaw("lift 1 if 1 ^- 1 < 2");
         wrongLaw("lift 1 if 1 ^2 < 3");
         wrongLaw("lift 1 if ^< 3");
+        wrongLaw("lift 1 if ^> 3 and rich");
         wrongLaw("lift 1 if 1 ^and rich");
         wrongLaw("lift 1 if rich ^< 1");
         wrongLaw("lift 1 if insured ^+ 1 > 1");
